@@ -325,7 +325,8 @@ public final class SixDew {
         if (less < 0 || less > 100) {
             return NONE;
         }
-        for (int c = 0; c < state.ground.size(); c++) {
+        int cells = state.ground.size();
+        for (int c = 0; c < cells; c++) {
             if (!start(trial, slot)) {
                 return NONE;
             }
@@ -650,7 +651,8 @@ public final class SixDew {
     }
 
     private boolean looksSo(Run run) {
-        for (int c = 0; c < state.ground.size(); c++) {
+        int cells = state.ground.size();
+        for (int c = 0; c < cells; c++) {
             int seen = tape.byteAt(c);
             int looks = run.waterOf(c) > 0 ? 1 : 0;
             if (seen != 2 && seen != looks) {
@@ -1248,16 +1250,21 @@ public final class SixDew {
                 return tape.fail(FAULT_MANY);
             }
             read.set(line, 0, does);
-            if (!tape.takeNumber(does == DO_ON ? 1 : 0, does == DO_ON ? STEPS : ground.columns - 1)) {
+            if (does == DO_ON) {
+                if (!tape.takeNumber(1, STEPS)) {
+                    return false;
+                }
+                read.set(line, 1, tape.value);
+                return tape.takeStop();
+            }
+            if (!tape.takeNumber(0, ground.columns - 1)) {
                 return false;
             }
             read.set(line, 1, tape.value);
-            if (does != DO_ON) {
-                if (!tape.takeNumber(0, ground.rows - 1)) {
-                    return false;
-                }
-                read.set(line, 2, tape.value);
+            if (!tape.takeNumber(0, ground.rows - 1)) {
+                return false;
             }
+            read.set(line, 2, tape.value);
             return tape.takeStop();
         }
 
@@ -1342,7 +1349,7 @@ public final class SixDew {
 
         int wetCells(int least) {
             int wetOnes = 0;
-            for (int c = 0; has(c); c++) {
+            for (int c = 0; c < cells && c < CELLS; c++) {
                 wetOnes += water[c] >= least ? 1 : 0;
             }
             return wetOnes;
@@ -1350,7 +1357,7 @@ public final class SixDew {
 
         int waterOfAll() {
             int sum = 0;
-            for (int c = 0; has(c); c++) {
+            for (int c = 0; c < cells && c < CELLS; c++) {
                 sum += water[c];
             }
             return sum;
@@ -1358,14 +1365,14 @@ public final class SixDew {
 
         int coveredCells() {
             int sum = 0;
-            for (int c = 0; has(c); c++) {
+            for (int c = 0; c < cells && c < CELLS; c++) {
                 sum += covered[c];
             }
             return sum;
         }
 
         boolean isUnlike(Run other) {
-            for (int c = 0; has(c); c++) {
+            for (int c = 0; c < cells && c < CELLS; c++) {
                 if (water[c] != other.waterOf(c)) {
                     return true;
                 }
@@ -1435,7 +1442,7 @@ public final class SixDew {
             int air = 100 * night.tell(AIR, done);
             int line = 100 * night.tell(LINE, done);
             int sun = night.tell(SUN, done);
-            for (int c = 0; has(c); c++) {
+            for (int c = 0; c < cells && c < CELLS; c++) {
                 warmth[c] += warmer(c, clear, wind, air, sun);
                 int lack = line - warmth[c];
                 if (lack > 0) {
@@ -1513,7 +1520,7 @@ public final class SixDew {
         }
 
         void look(Run run, int t) {
-            for (int c = 0; c < CELLS; c++) {
+            for (int c = 0; c < run.cells && c < CELLS; c++) {
                 if (run.waterOf(c) > 0) {
                     seeWet(c, t, run.warmthOf(c) < 0);
                 } else {
@@ -1556,8 +1563,9 @@ public final class SixDew {
                 return 0;
             }
             spread(run, ground, from, true);
+            int cells = ground.size();
             int many = 0;
-            for (int c = 0; c < ground.size() && c < CELLS; c++) {
+            for (int c = 0; c < cells && c < CELLS; c++) {
                 many += cost[c] < FAR ? 1 : 0;
             }
             return many;
@@ -1573,11 +1581,12 @@ public final class SixDew {
             for (int c = 0; c < CELLS; c++) {
                 cost[c] = c == from ? run.waterOf(c) : FAR;
             }
+            int cells = ground.size();
             boolean cheaper = true;
             // A best way treads no CELL twice, so that so many rounds find them all.
             for (int round = 0; round < CELLS && cheaper; round++) {
                 cheaper = false;
-                for (int c = 0; c < ground.size() && c < CELLS; c++) {
+                for (int c = 0; c < cells && c < CELLS; c++) {
                     int water = run.waterOf(c);
                     int way = water > 0 || !wetOnly ? leastBeside(ground, c) + water : FAR;
                     if (way < cost[c]) {

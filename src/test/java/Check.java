@@ -79,6 +79,14 @@ final class Check {
         return d.plan();
     }
 
+    /** A new object with a GROUND and a NIGHT in SLOT 0. */
+    static SixDew with(String ground, String night) {
+        SixDew d = new SixDew();
+        due("ground() of " + ground, ground(d, ground) >= 0, true);
+        due("night() of " + night, night(d, 0, night) >= 0, true);
+        return d;
+    }
+
     static void groundDue(SixDew d, String text, int lines) {
         due("ground() of " + text, ground(d, text), lines);
         due("fault() behind it", d.fault(), 0);

@@ -36,8 +36,8 @@ public final class DearestCallsTest {
 
     private static void noIntBreaksACall() {
         Random random = new Random(7);
-        int[] ints = {Integer.MIN_VALUE, Integer.MIN_VALUE + 1, -1000, -2, -1, 0, 1, 2, 3, 5, 11, 12,
-            71, 72, 100, 143, 144, 145, 999, 9999, 10000, Integer.MAX_VALUE - 1, Integer.MAX_VALUE};
+        int[] ints = {Integer.MIN_VALUE, Integer.MIN_VALUE + 1, -1000, -2, -1, 0, 1, 2, 3, 5, 11,
+            12, 71, 72, 100, 143, 144, 145, 999, 9999, 10000, Integer.MAX_VALUE - 1, Integer.MAX_VALUE};
         for (int object = 0; object < 60; object++) {
             SixDew d = object % 2 == 0 ? new SixDew() : big();
             for (int call = 0; call < 300; call++) {

@@ -23,13 +23,6 @@ public final class FindingTest {
         Check.finish("FindingTest");
     }
 
-    private static SixDew with(String ground, String night) {
-        SixDew d = new SixDew();
-        Check.due("ground() of " + ground, Check.ground(d, ground) >= 0, true);
-        Check.due("night() of " + night, Check.night(d, 0, night) >= 0, true);
-        return d;
-    }
-
     private static int lawn(SixDew d, int... bytes) {
         Check.tape(d, bytes);
         int slots = d.lawn();
@@ -45,7 +38,7 @@ public final class FindingTest {
     }
 
     private static void p28Lawn() {
-        SixDew d = with(GIFTS + "row ab;row ca;", WET);
+        SixDew d = Check.with(GIFTS + "row ab;row ca;", WET);
         Check.night(d, 2, "");
         Check.night(d, 5, "air 71 10 11;");
         Check.due("lawn", lawn(d, 0, 1, 1, 0), 0b100001);
@@ -63,7 +56,7 @@ public final class FindingTest {
     }
 
     private static void p28NotAsTold() {
-        SixDew d = with(GIFTS + "row ab;row ca;", WET);
+        SixDew d = Check.with(GIFTS + "row ab;row ca;", WET);
         Check.due("lawn of 3", lawn(d, 0, 1, 1), -1);
         Check.due("lawn of 5", lawn(d, 0, 1, 1, 0, 0), -1);
         Check.due("lawn of none", lawn(d), -1);
@@ -76,7 +69,7 @@ public final class FindingTest {
     }
 
     private static void p29Clouded() {
-        SixDew d = with(QUICK + "row a;", WINDY);
+        SixDew d = Check.with(QUICK + "row a;", WINDY);
         Check.due("much", d.much(0, 0, 0, 71), 72);
         Check.due("clouded, wet", clouded(d, 0, 1), 2047);
         Check.due("clouded, dry", clouded(d, 0, 0), 2048);
@@ -91,7 +84,7 @@ public final class FindingTest {
         Check.night(d, 3, "wind 0 9;cloud 0 100;cloud 6 0;cloud 12 100;");
         Check.due("much behind 11", d.much(3, 0, 0, 11), 6);
         // Two CELLS: one hidden, one clear.
-        d = with(QUICK + "row aa;shade 0 0 0 100;", WINDY);
+        d = Check.with(QUICK + "row aa;shade 0 0 0 100;", WINDY);
         Check.due("clouded", clouded(d, 0, 0, 1), 2047);
         Check.due("clouded", clouded(d, 0, 0, 0), 2048);
         Check.due("clouded", clouded(d, 0, 1, 1), 0);
@@ -99,7 +92,7 @@ public final class FindingTest {
     }
 
     private static void p29NotAsTold() {
-        SixDew d = with(QUICK + "row aa;", WINDY);
+        SixDew d = Check.with(QUICK + "row aa;", WINDY);
         Check.due("clouded of 1", clouded(d, 0, 1), -1);
         Check.due("clouded of 3", clouded(d, 0, 1, 1, 1), -1);
         Check.due("clouded of a 3", clouded(d, 0, 1, 3), -1);
@@ -109,7 +102,7 @@ public final class FindingTest {
     }
 
     private static void p30Came() {
-        SixDew d = with(QUICK + "row aa;", WINDY);
+        SixDew d = Check.with(QUICK + "row aa;", WINDY);
         // Whenever a car comes, the CELL is dry in that STEP or soon: but for STEP 72.
         Check.due("came", d.came(0, 0, 0, 72), 1);
         Check.due("came", d.came(0, 1, 0, 72), 1);
@@ -120,17 +113,17 @@ public final class FindingTest {
         Check.due("came", d.came(0, 0, 0, -1), 0);
         Check.due("came", d.came(0, 0, 0, Integer.MAX_VALUE), 0);
         // A CELL that has no SKY anyway, and one that gives off nothing.
-        d = with(QUICK + "kind f 10 0;row ab;shade 0 0 0 100;", WINDY);
+        d = Check.with(QUICK + "kind f 10 0;row ab;shade 0 0 0 100;", WINDY);
         Check.due("came", d.came(0, 0, 0, 0), 73);
         Check.due("came", d.came(0, 1, 0, 0), 73);
         // The car's CELL alone: the other one has 72 whenever the car comes.
-        d = with(QUICK + "row aa;", WINDY);
+        d = Check.with(QUICK + "row aa;", WINDY);
         Check.due("came", d.came(0, 1, 0, 0), 71);
         Check.due("much of the other", d.much(0, 0, 0, 71), 72);
     }
 
     private static void p31CameAt() {
-        SixDew d = with(QUICK + "row a;", WINDY);
+        SixDew d = Check.with(QUICK + "row a;", WINDY);
         Check.due("cameAt ahead of any", d.cameAt(0), -1);
         Check.due("cameAt ahead of any", d.cameAt(1), -1);
         Check.due("came", d.came(0, 0, 0, 0), 71);
@@ -150,7 +143,7 @@ public final class FindingTest {
         Check.ground(d, "");
         Check.due("cameAt(0) in a new GROUND", d.cameAt(0), 71);
         // There is none.
-        d = with(QUICK + "row a;", WINDY);
+        d = Check.with(QUICK + "row a;", WINDY);
         Check.due("came", d.came(0, 0, 0, 72), 1);
         Check.due("came", d.came(0, 0, 0, 7), 0);
         Check.due("cameAt(0)", d.cameAt(0), -1);
@@ -159,21 +152,21 @@ public final class FindingTest {
 
     private static void p32Roof() {
         // WARMTH falls to 1000 less 20 SKY in the end: SKY 10 never makes water by L 8, 11 does.
-        SixDew d = with("kind g 10 10 gives 1;row aaa;row aaa;water 0;shade 1 1 0 50;"
+        SixDew d = Check.with("kind g 10 10 gives 1;row aaa;row aaa;water 0;shade 1 1 0 50;"
                 + "shade 2 0 0 95;", "");
         Check.due("roof", d.roof(0, 0, 0), 90);
         Check.due("roof", d.roof(0, 1, 1), 40);
         Check.due("roof", d.roof(0, 2, 0), 0);
         // Water by night's end does not count, nor does a roof help where the air is wet.
         String flat = "kind f 10 0;row a;";
-        Check.due("roof", with(flat, "air 72 10 11;").roof(0, 0, 0), 0);
-        Check.due("roof", with(flat, "air 71 10 11;").roof(0, 0, 0), -1);
-        Check.due("roof", with(flat, WET).roof(0, 0, 0), -1);
-        Check.due("roof", with(flat + "water 0;", WET).roof(0, 0, 0), 0);
+        Check.due("roof", Check.with(flat, "air 72 10 11;").roof(0, 0, 0), 0);
+        Check.due("roof", Check.with(flat, "air 71 10 11;").roof(0, 0, 0), -1);
+        Check.due("roof", Check.with(flat, WET).roof(0, 0, 0), -1);
+        Check.due("roof", Check.with(flat + "water 0;", WET).roof(0, 0, 0), 0);
         // A whole roof: with SKY 1 it is 1000 - 50 * 100 / 5000.
-        Check.due("roof", with("kind g 50 50;row a;", "air 0 10 10;").roof(0, 0, 0), 100);
+        Check.due("roof", Check.with("kind g 50 50;row a;", "air 0 10 10;").roof(0, 0, 0), 100);
         // A roof takes no more SKY than there is: 0 at least.
-        Check.due("roof", with("kind g 50 50;row a;shade 0 0 0 100;", "air 0 10 10;sun 0;")
+        Check.due("roof", Check.with("kind g 50 50;row a;shade 0 0 0 100;", "air 0 10 10;sun 0;")
                 .roof(0, 0, 0), 0);
     }
 
@@ -181,7 +174,7 @@ public final class FindingTest {
         // Behind STEP 71: 72 times  0 5 1
         //                           2 0 1
         //                           1 0 0
-        SixDew d = with(GIFTS + "row adb;row cab;row baa;", WET);
+        SixDew d = Check.with(GIFTS + "row adb;row cab;row baa;", WET);
         Check.due("driest 1", d.driest(0, 1), 0);
         Check.due("driest 2", d.driest(0, 2), 101);
         Check.due("driest 3", d.driest(0, 3), 0);
@@ -191,41 +184,48 @@ public final class FindingTest {
         Check.due("driest 13", d.driest(0, 13), -1);
         Check.due("driest of the greatest int", d.driest(0, Integer.MAX_VALUE), -1);
         // Of like ones the first by Y, then X.
-        d = with(GIFTS + "row cbcb;row bbbc;", WET);
+        d = Check.with(GIFTS + "row cbcb;row bbbc;", WET);
         Check.due("driest 1", d.driest(0, 1), 1);
         Check.due("driest 2", d.driest(0, 2), 0);
-        d = with(GIFTS + "row cc;row cb;row bc;", WET);
+        d = Check.with(GIFTS + "row cc;row cb;row bc;", WET);
         Check.due("driest 1", d.driest(0, 1), 101);
         // There is no such square though there are columns or rows enough.
         Check.due("driest 3", d.driest(0, 3), -1);
-        d = with(GIFTS + "row ccca;", WET);
+        d = Check.with(GIFTS + "row ccca;", WET);
         Check.due("driest 1", d.driest(0, 1), 3);
         Check.due("driest 2", d.driest(0, 2), -1);
         // Behind STEP 71.
-        d = with(GIFTS + "row b;", "air 0 10 11;air 72 10 0;");
+        d = Check.with(GIFTS + "row b;", "air 0 10 11;air 72 10 0;");
         Check.due("driest 1", d.driest(0, 1), 0);
-        d = with("kind f 10 0;row " + "aaaaaaaaaaaa;" + Check.times("row aaaaaaaaaaaa;", 11), "");
+        // Wet in STEP 70 and not behind, or in STEP 71 and not behind: the second CELL has less.
+        d = Check.with("kind f 12 0 gives 1;kind v 10 0 gives 2;row ba;water 0;",
+                "air 70 10 11;air 71 10 8;");
+        Check.due("driest behind a dry STEP 71", d.driest(0, 1), 0);
+        d = Check.with("kind f 12 0 gives 1;kind v 10 0 gives 2;row ba;water 0;",
+                "air 71 10 11;air 72 10 8;");
+        Check.due("driest behind a wet STEP 71", d.driest(0, 1), 1);
+        d = Check.with("kind f 10 0;" + Check.times("row aaaaaaaaaaaa;", 12), "");
         Check.due("driest 12", d.driest(0, 12), 0);
     }
 
     private static void p34Catcher() {
         // The KIND that the CELL would catch most as, whatever it is told to be.
-        SixDew d = with(GIFTS + "row ab;", WET);
+        SixDew d = Check.with(GIFTS + "row ab;", WET);
         Check.due("catcher", d.catcher(0, 0, 0), 3);
         Check.due("catcher", d.catcher(0, 1, 0), 3);
         Check.due("much still", d.much(0, 0, 0, 71), 0);
         // Of like ones the least.
-        Check.due("catcher by day's warmth", with(GIFTS + "row db;", "").catcher(0, 0, 0), 0);
-        d = with("kind m 10 0 gives 1;kind n 10 0 gives 4;kind o 10 0 gives 4;row c;", WET);
+        Check.due("catcher by day's warmth", Check.with(GIFTS + "row db;", "").catcher(0, 0, 0), 0);
+        d = Check.with("kind m 10 0 gives 1;kind n 10 0 gives 4;kind o 10 0 gives 4;row c;", WET);
         Check.due("catcher", d.catcher(0, 0, 0), 1);
         // HOLD and GIVE of the KIND go with it, the SKY of the CELL stays.
-        d = with("kind f 10 0;kind g 10 20;row ab;shade 1 0 0 100;", "");
+        d = Check.with("kind f 10 0;kind g 10 20;row ab;shade 1 0 0 100;", "");
         Check.due("catcher under the SKY", d.catcher(0, 0, 0), 1);
         Check.due("catcher without SKY", d.catcher(0, 1, 0), 0);
-        d = with("kind f 50 10;kind g 5 10;row a;water 999;", "");
+        d = Check.with("kind f 50 10;kind g 5 10;row a;water 999;", "");
         Check.due("catcher of less HOLD", d.catcher(0, 0, 0), 1);
         // Behind STEP 71, whatever comes later.
-        d = with(GIFTS + "row a;", "air 72 10 11;");
+        d = Check.with(GIFTS + "row a;", "air 72 10 11;");
         Check.due("catcher", d.catcher(0, 0, 0), 0);
     }
 }

@@ -11,13 +11,6 @@ public final class ImagesTest {
         Check.finish("ImagesTest");
     }
 
-    private static SixDew with(String ground, String night) {
-        SixDew d = new SixDew();
-        Check.due("ground() of " + ground, Check.ground(d, ground) >= 0, true);
-        Check.due("night() of " + night, Check.night(d, 0, night) >= 0, true);
-        return d;
-    }
-
     private static void p41Image() {
         SixDew d = new SixDew();
         for (int k : new int[] {-1, 2, Integer.MAX_VALUE, Integer.MIN_VALUE}) {
@@ -44,7 +37,7 @@ public final class ImagesTest {
     }
 
     private static void p42Restore() {
-        SixDew d = with("kind f 10 0;kind w 20 5 gives 3;row ab;shade 1 0 0 9;water 20;",
+        SixDew d = Check.with("kind f 10 0;kind w 20 5 gives 3;row ab;shade 1 0 0 9;water 20;",
                 "air 0 10 11;");
         Check.night(d, 4, "cloud 7 7;");
         Check.plan(d, "cover 0 0;on 2;wipe 0 0;");
@@ -88,7 +81,7 @@ public final class ImagesTest {
             Check.due("now(2)", d.now(2), now[2] + 3);
         }
         // An image without a RUN takes the RUN away.
-        d = with("kind f 10 0;row a;", "");
+        d = Check.with("kind f 10 0;row a;", "");
         Check.due("image(1)", d.image(1), true);
         Check.due("begin", d.begin(0), true);
         Check.due("restore(1)", d.restore(1), true);
@@ -98,7 +91,7 @@ public final class ImagesTest {
     }
 
     private static void p42WhatStays() {
-        SixDew d = with("kind q 1 10 gives 1;row a;water 0;", "wind 0 9;");
+        SixDew d = Check.with("kind q 1 10 gives 1;row a;water 0;", "wind 0 9;");
         Check.due("image(0)", d.image(0), true);
         Check.due("came", d.came(0, 0, 0, 72), 1);
         Check.due("drawn", d.drawn(0, 0, 0, 3, 1) >= 0, true);
@@ -124,7 +117,7 @@ public final class ImagesTest {
     }
 
     private static void p43Count() {
-        SixDew d = with("kind f 10 0;kind g 1 0;kind h 1 0;row abca;row aaaa;shade 3 1 1 1;"
+        SixDew d = Check.with("kind f 10 0;kind g 1 0;kind h 1 0;row abca;row aaaa;shade 3 1 1 1;"
                 + "shade 3 1 1 1;shade 3 1 1 1;shade 3 1 1 1;shade 3 1 1 1;water 77;", "");
         Check.night(d, 3, "");
         Check.plan(d, "on 1;on 1;wipe 0 0;on 1;on 1;on 1;on 1;");

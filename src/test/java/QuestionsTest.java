@@ -28,19 +28,12 @@ public final class QuestionsTest {
         Check.finish("QuestionsTest");
     }
 
-    private static SixDew with(String ground, String night) {
-        SixDew d = new SixDew();
-        Check.due("ground() of " + ground, Check.ground(d, ground) >= 0, true);
-        Check.due("night() of " + night, Check.night(d, 0, night) >= 0, true);
-        return d;
-    }
-
     /** Of every call with a CELL or a SLOT: no such ones. */
     private static void wrongCells() {
         String[] calls = {"begins", "gone", "wet", "spell", "frost", "roof", "catcher"};
         int[][] none = {{0, -1, 0}, {0, 4, 0}, {0, 0, -1}, {0, 0, 1}, {1, 0, 0}, {-1, 0, 0},
             {6, 0, 0}};
-        SixDew d = with(GIFTS + "row bbbb;", "air 0 0 11;air 1 10 11;air 5 10 0;");
+        SixDew d = Check.with(GIFTS + "row bbbb;", "air 0 0 11;air 1 10 11;air 5 10 0;");
         for (int[] a : none) {
             for (String call : calls) {
                 Check.due(call + " of none", Faces.call(d, call, a), -1);
@@ -63,7 +56,7 @@ public final class QuestionsTest {
     }
 
     private static void p16Much() {
-        SixDew d = with(GIFTS + "row abd;row cda;", WET);
+        SixDew d = Check.with(GIFTS + "row abd;row cda;", WET);
         Check.due("much", d.much(0, 1, 0, 0), 1);
         Check.due("much", d.much(0, 1, 0, 71), 72);
         Check.due("much", d.much(0, 0, 1, 143), 288);
@@ -81,7 +74,7 @@ public final class QuestionsTest {
     }
 
     private static void p17Where() {
-        SixDew d = with(GIFTS + "row abd;row cda;", WET);
+        SixDew d = Check.with(GIFTS + "row abd;row cda;", WET);
         Check.due("where", d.where(0, 9, 1), 4);
         Check.due("where", d.where(0, 9, 10), 4);
         Check.due("where", d.where(0, 9, 11), 3);
@@ -95,47 +88,47 @@ public final class QuestionsTest {
     }
 
     private static void p18Begins() {
-        Check.due("begins", with(FLAT, WET).begins(0, 0, 0), 0);
-        Check.due("begins", with(FLAT, "air 143 10 11;").begins(0, 0, 0), 143);
-        Check.due("begins", with(FLAT, "").begins(0, 0, 0), -1);
-        Check.due("begins", with(FLAT, "air 7 10 11;air 9 10 0;air 20 10 11;").begins(0, 0, 0), 7);
-        Check.due("begins", with(FLAT, "wind 0 3;air 0 10 11;wind 8 2;").begins(0, 0, 0), 8);
+        Check.due("begins", Check.with(FLAT, WET).begins(0, 0, 0), 0);
+        Check.due("begins", Check.with(FLAT, "air 143 10 11;").begins(0, 0, 0), 143);
+        Check.due("begins", Check.with(FLAT, "").begins(0, 0, 0), -1);
+        Check.due("begins", Check.with(FLAT, "air 7 10 11;air 9 10 0;air 20 10 11;").begins(0, 0, 0), 7);
+        Check.due("begins", Check.with(FLAT, "wind 0 3;air 0 10 11;wind 8 2;").begins(0, 0, 0), 8);
     }
 
     private static void p19Gone() {
-        Check.due("gone", with(FLAT, EARLY).gone(0, 0, 0), 9);
-        Check.due("gone", with(FLAT, "").gone(0, 0, 0), -1);
-        Check.due("gone", with(FLAT, WET).gone(0, 0, 0), -1);
+        Check.due("gone", Check.with(FLAT, EARLY).gone(0, 0, 0), 9);
+        Check.due("gone", Check.with(FLAT, "").gone(0, 0, 0), -1);
+        Check.due("gone", Check.with(FLAT, WET).gone(0, 0, 0), -1);
         // Behind the last STEP with some, not the first time that it is gone.
-        Check.due("gone", with(FLAT, "air 0 10 11;air 1 10 0;air 30 10 11;air 32 10 0;")
+        Check.due("gone", Check.with(FLAT, "air 0 10 11;air 1 10 0;air 30 10 11;air 32 10 0;")
                 .gone(0, 0, 0), 32);
-        Check.due("gone", with(FLAT, "air 142 10 11;air 143 10 0;").gone(0, 0, 0), 143);
-        Check.due("gone", with(FLAT, "air 143 10 11;").gone(0, 0, 0), -1);
+        Check.due("gone", Check.with(FLAT, "air 142 10 11;air 143 10 0;").gone(0, 0, 0), 143);
+        Check.due("gone", Check.with(FLAT, "air 143 10 11;").gone(0, 0, 0), -1);
     }
 
     private static void p20Wet() {
-        Check.due("wet", with(FLAT, EARLY).wet(0, 0, 0), 9);
-        Check.due("wet", with(FLAT, "").wet(0, 0, 0), 0);
-        Check.due("wet", with(FLAT, WET).wet(0, 0, 0), 144);
-        Check.due("wet", with(FLAT, "air 0 10 11;air 1 10 0;air 30 10 11;air 32 10 0;")
+        Check.due("wet", Check.with(FLAT, EARLY).wet(0, 0, 0), 9);
+        Check.due("wet", Check.with(FLAT, "").wet(0, 0, 0), 0);
+        Check.due("wet", Check.with(FLAT, WET).wet(0, 0, 0), 144);
+        Check.due("wet", Check.with(FLAT, "air 0 10 11;air 1 10 0;air 30 10 11;air 32 10 0;")
                 .wet(0, 0, 0), 3);
-        Check.due("wet", with(FLAT, "air 143 10 11;").wet(0, 0, 0), 1);
+        Check.due("wet", Check.with(FLAT, "air 143 10 11;").wet(0, 0, 0), 1);
     }
 
     private static void p21Spell() {
-        Check.due("spell", with(FLAT, EARLY).spell(0, 0, 0), 9);
-        Check.due("spell", with(FLAT, "").spell(0, 0, 0), 0);
-        Check.due("spell", with(FLAT, WET).spell(0, 0, 0), 144);
-        Check.due("spell", with(FLAT, "air 0 10 11;air 1 10 0;air 30 10 11;air 32 10 0;")
+        Check.due("spell", Check.with(FLAT, EARLY).spell(0, 0, 0), 9);
+        Check.due("spell", Check.with(FLAT, "").spell(0, 0, 0), 0);
+        Check.due("spell", Check.with(FLAT, WET).spell(0, 0, 0), 144);
+        Check.due("spell", Check.with(FLAT, "air 0 10 11;air 1 10 0;air 30 10 11;air 32 10 0;")
                 .spell(0, 0, 0), 2);
-        Check.due("spell", with(FLAT, "air 0 10 11;air 4 10 0;air 30 10 11;air 32 10 0;")
+        Check.due("spell", Check.with(FLAT, "air 0 10 11;air 4 10 0;air 30 10 11;air 32 10 0;")
                 .spell(0, 0, 0), 4);
-        Check.due("spell", with(FLAT, "air 0 10 11;air 1 10 0;air 140 10 11;").spell(0, 0, 0), 4);
+        Check.due("spell", Check.with(FLAT, "air 0 10 11;air 1 10 0;air 140 10 11;").spell(0, 0, 0), 4);
     }
 
     private static void p22Sick() {
         // Gifts dry in the same time: 5 in all by 1 a STEP longer than 1 or 2.
-        SixDew d = with(GIFTS + "row abcd;", "air 0 10 11;air 1 10 10;");
+        SixDew d = Check.with(GIFTS + "row abcd;", "air 0 10 11;air 1 10 10;");
         // SPELLS 0, 1, 2 and 5: of k given, 1 dries in each STEP behind STEP 0.
         int[] due = {-1, 3, 2, 1, 1, 1, 0};
         for (int n = 0; n < due.length; n++) {
@@ -143,21 +136,21 @@ public final class QuestionsTest {
         }
         Check.due("sick(0, 144)", d.sick(0, 144), 0);
         Check.due("sick(0, 145)", d.sick(0, 145), -1);
-        Check.due("sick(0, 144) of wet ones", with(GIFTS + "row abcd;", WET).sick(0, 144), 3);
+        Check.due("sick(0, 144) of wet ones", Check.with(GIFTS + "row abcd;", WET).sick(0, 144), 3);
     }
 
     private static void p23Frost() {
         // WARMTH 100 A of 0, less 10 behind each STEP.
         String cold = "kind g 10 1;row a;";
-        Check.due("frost", with(cold, "air 0 0 1;").frost(0, 0, 0), 0);
-        Check.due("frost", with(cold, "air 0 0 0;").frost(0, 0, 0), 0);
-        Check.due("frost", with(cold, "air 0 0 1;wind 0 3;wind 6 0;").frost(0, 0, 0), 6);
-        Check.due("frost", with(cold, "air 0 0 1;wind 0 3;").frost(0, 0, 0), -1);
-        Check.due("frost", with(cold, "").frost(0, 0, 0), -1);
+        Check.due("frost", Check.with(cold, "air 0 0 1;").frost(0, 0, 0), 0);
+        Check.due("frost", Check.with(cold, "air 0 0 0;").frost(0, 0, 0), 0);
+        Check.due("frost", Check.with(cold, "air 0 0 1;wind 0 3;wind 6 0;").frost(0, 0, 0), 6);
+        Check.due("frost", Check.with(cold, "air 0 0 1;wind 0 3;").frost(0, 0, 0), -1);
+        Check.due("frost", Check.with(cold, "").frost(0, 0, 0), -1);
         // WARMTH 0 is not below 0.
-        Check.due("frost", with("kind f 10 0;row a;", "air 0 0 1;").frost(0, 0, 0), -1);
+        Check.due("frost", Check.with("kind f 10 0;row a;", "air 0 0 1;").frost(0, 0, 0), -1);
         // WATER first, cold later: WARMTH 1000 falls by 99 and more; L keeps it wet.
-        SixDew d = with("kind g 10 10;row a;", "air 0 1 40;");
+        SixDew d = Check.with("kind g 10 10;row a;", "air 0 1 40;");
         Check.due("begin", d.begin(0), true);
         d.on(1);
         Check.due("WARMTH", Check.is(d, 0, 0, 0), 0);
@@ -168,7 +161,7 @@ public final class QuestionsTest {
         // b wet, a dry:  b b a b
         //                a b a b
         //                b a b b   (corners do not come together)
-        SixDew d = with(GIFTS + "row bbab;row abab;row babb;", WET);
+        SixDew d = Check.with(GIFTS + "row bbab;row abab;row babb;", WET);
         int[][] due = {{3, 3, 0, 4}, {0, 3, 0, 4}, {1, 0, 4, 4}};
         for (int y = 0; y < 3; y++) {
             for (int x = 0; x < 4; x++) {
@@ -178,14 +171,14 @@ public final class QuestionsTest {
         Check.due("slugs behind -1", d.slugs(0, -1, 0, 0), -1);
         Check.due("slugs behind 144", d.slugs(0, 144, 0, 0), -1);
         // A long way round, north and west, too; the end of a row is no neighbour of the next.
-        d = with(GIFTS + "row bbbbb;row aaaab;row bbbab;row baaab;row bbbbb;row aaaaa;row abaaa;",
+        d = Check.with(GIFTS + "row bbbbb;row aaaab;row bbbab;row baaab;row bbbbb;row aaaaa;row abaaa;",
                 WET);
         Check.due("slugs round", d.slugs(0, 0, 2, 2), 17);
         Check.due("slugs round", d.slugs(0, 0, 0, 0), 17);
         Check.due("slugs alone", d.slugs(0, 0, 1, 6), 1);
-        d = with(GIFTS + "row aab;row baa;", WET);
+        d = Check.with(GIFTS + "row aab;row baa;", WET);
         Check.due("slugs of a row's end", d.slugs(0, 0, 2, 0), 1);
-        d = with("kind f 10 0;row " + "aaaaaaaaaaaa;" + Check.times("row aaaaaaaaaaaa;", 11)
+        d = Check.with("kind f 10 0;" + Check.times("row aaaaaaaaaaaa;", 12)
                 + "water 999;", WET);
         Check.due("slugs of all", d.slugs(0, 71, 11, 11), 144);
     }
@@ -194,7 +187,7 @@ public final class QuestionsTest {
         // Behind STEP 0 each CELL has what its KIND gives: 0 5 1
         //                                                  2 5 1
         //                                                  1 1 1
-        SixDew d = with(GIFTS + "row adb;row cdb;row bbb;", WET);
+        SixDew d = Check.with(GIFTS + "row adb;row cdb;row bbb;", WET);
         Check.due("walk", d.walk(0, 0, 0, 2), 6);
         Check.due("walk", d.walk(0, 0, 2, 0), 6);
         Check.due("walk", d.walk(0, 0, 0, 0), 0);
@@ -204,7 +197,7 @@ public final class QuestionsTest {
         Check.due("walk", d.walk(0, 9, 3, 5), 60);
         Check.due("walk", d.walk(0, 0, 0, 8), 5);
         // A dry way round is better than a short wet one.
-        d = with(GIFTS + "row abaaa;row abada;row aaaba;", WET);
+        d = Check.with(GIFTS + "row abaaa;row abada;row aaaba;", WET);
         Check.due("walk", d.walk(0, 0, 0, 2), 0);
         Check.due("walk", d.walk(0, 0, 0, 4), 0);
         Check.due("walk", d.walk(0, 0, 0, 8), 5);
@@ -216,7 +209,7 @@ public final class QuestionsTest {
     }
 
     private static void p26Unlike() {
-        SixDew d = with(GIFTS + "row ab;", WET);
+        SixDew d = Check.with(GIFTS + "row ab;", WET);
         Check.night(d, 1, "air 0 10 11;air 9 10 10;");
         Check.night(d, 2, "air 0 10 11;cloud 9 70;");
         Check.night(d, 5, "air 0 10 11;air 143 10 10;");
@@ -239,7 +232,7 @@ public final class QuestionsTest {
     private static void p27Bench() {
         // WARMTH falls to 1000 less 20 SKY in the end: SKY 10 never makes water by L 8, 11 does.
         String grass = "kind g 10 10 gives 1;row aaa;shade 1 0 0 50;shade 2 0 0 70;water 0;";
-        SixDew d = with(grass, "");
+        SixDew d = Check.with(grass, "");
         Check.due("bench", d.bench(0, 19), -1);
         Check.due("bench", d.bench(0, 20), 2);
         Check.due("bench", d.bench(0, 39), 2);
@@ -249,13 +242,13 @@ public final class QuestionsTest {
         Check.due("bench", d.bench(0, 100), 0);
         Check.due("bench", d.bench(0, -1), -1);
         Check.due("bench", d.bench(0, 101), -1);
-        d = with("kind g 10 10 gives 1;row aa;row aa;shade 1 1 0 50;water 0;", "");
+        d = Check.with("kind g 10 10 gives 1;row aa;row aa;shade 1 1 0 50;water 0;", "");
         Check.due("bench", d.bench(0, 40), 101);
         Check.due("bench", d.bench(0, 39), -1);
         // Water behind six does not count, water behind STEP 71 does.
-        Check.due("bench", with(FLAT, "air 72 10 11;").bench(0, 0), 0);
-        Check.due("bench", with(FLAT, "air 71 10 11;").bench(0, 0), -1);
+        Check.due("bench", Check.with(FLAT, "air 72 10 11;").bench(0, 0), 0);
+        Check.due("bench", Check.with(FLAT, "air 71 10 11;").bench(0, 0), -1);
         // Water that is gone by six does.
-        Check.due("bench", with(FLAT, EARLY).bench(0, 0), -1);
+        Check.due("bench", Check.with(FLAT, EARLY).bench(0, 0), -1);
     }
 }

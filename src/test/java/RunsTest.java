@@ -19,9 +19,7 @@ public final class RunsTest {
     }
 
     private static SixDew with(String ground, String night) {
-        SixDew d = new SixDew();
-        Check.due("ground() of " + ground, Check.ground(d, ground) >= 0, true);
-        Check.due("night() of " + night, Check.night(d, 0, night) >= 0, true);
+        SixDew d = Check.with(ground, night);
         Check.due("begin", d.begin(0), true);
         return d;
     }
@@ -43,6 +41,11 @@ public final class RunsTest {
             Check.due("WATER behind " + t + " of " + night, Check.is(d, x, 0, 1), water[t]);
             Check.due("much behind " + t + " of " + night, d.much(0, x, 0, t), water[t]);
         }
+    }
+
+    private static SixDew onBy(SixDew d, int steps) {
+        Check.due("on(" + steps + ")", d.on(steps), steps);
+        return d;
     }
 
     private static void p09Begin() {
@@ -202,6 +205,8 @@ public final class RunsTest {
         Check.due("now(3)", d.now(3), 0);
         Check.due("now(4)", d.now(4), 0);
         Check.due("now(-1)", d.now(-1), -1);
+        Check.due("now(3) of 1 WATER", onBy(with("kind v 10 0 gives 1;row a;water 0;",
+                "air 0 10 11;"), 1).now(3), 1);
         Check.due("now(5)", d.now(5), -1);
         Check.ground(d, "");
         for (int what = 0; what < 5; what++) {
@@ -272,6 +277,10 @@ public final class RunsTest {
         Check.plan(d, "on 142;");
         Check.due("go(1)", d.go(1), -1);
         Check.due("now(0)", d.now(0), 144);
+        // One WATER is some.
+        d = with("kind v 10 0 gives 1;row aa;water 0;", "air 0 10 11;");
+        wrongDue(d, "on 1;wipe 0 0;", -1, 0);
+        Check.due("went(3)", d.went(3), 1);
         // A CELL without SKY by shades is not covered.
         d = with("kind f 10 0;row a;shade 0 0 0 100;", "");
         wrongDue(d, "bare 0 0;", 0, 3);

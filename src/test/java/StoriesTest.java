@@ -16,16 +16,9 @@ public final class StoriesTest {
         Check.finish("StoriesTest");
     }
 
-    private static SixDew with(String ground, String night) {
-        SixDew d = new SixDew();
-        Check.due("ground() of " + ground, Check.ground(d, ground) >= 0, true);
-        Check.due("night() of " + night, Check.night(d, 0, night) >= 0, true);
-        return d;
-    }
-
     private static void p35Story() {
         // 3 come from STOCK while there is some, 2 are given.
-        SixDew d = with("kind w 10 0 gives 2;row a;water 10;", "air 0 10 11;air 5 10 10;");
+        SixDew d = Check.with("kind w 10 0 gives 2;row a;water 10;", "air 0 10 11;air 5 10 10;");
         int[][] due = {{5, 10, 15, 18, 20, 19, 18}, {3, 6, 9, 10, 10, 9, 8}, {2, 4, 6, 8, 10, 9, 8}};
         for (int which = 0; which < 3; which++) {
             for (int t = 0; t < due[which].length; t++) {
@@ -39,7 +32,7 @@ public final class StoriesTest {
         Check.due("story behind 144", d.story(0, 0, 0, 144, 0), -1);
         Check.due("story behind 143", d.story(0, 0, 0, 143, 0), 0);
         // Nor goes it there: the gift that dries makes no STOCK in STORY 2, but in 0.
-        d = with("kind w 10 0 gives 1;kind g 10 20;row ab;water 0;", "air 0 10 11;air 1 10 10;");
+        d = Check.with("kind w 10 0 gives 1;kind g 10 20;row ab;water 0;", "air 0 10 11;air 1 10 10;");
         Check.due("story 0", d.story(0, 1, 0, 1, 0), 1);
         Check.due("story 1", d.story(0, 1, 0, 1, 1), 0);
         Check.due("story 2", d.story(0, 1, 0, 1, 2), 0);
@@ -53,7 +46,7 @@ public final class StoriesTest {
     private static void p36Part() {
         // The first CELL is given nothing, the second 2 a STEP. What was given dries and comes to
         // STOCK: 24 behind STEP 11 by STORY 0, 18 by STORY 1, which lasts from 12 to 14 alone.
-        SixDew d = with("kind f 10 0;kind w 10 0 gives 2;row ab;water 18;",
+        SixDew d = Check.with("kind f 10 0;kind w 10 0 gives 2;row ab;water 18;",
                 "air 4 10 11;air 9 10 10;wind 9 4;wind 12 0;air 12 10 11;");
         Check.due("part 0 1", d.part(0, 0, 0, 0, 1), 15);
         Check.due("part 0 2", d.part(0, 0, 0, 0, 2), 4);
@@ -63,12 +56,15 @@ public final class StoriesTest {
         Check.due("part 1 2", d.part(0, 1, 0, 1, 2), 4);
         Check.due("part 1 1", d.part(0, 1, 0, 1, 1), -1);
         Check.due("part 0 3", d.part(0, 1, 0, 0, 3), -1);
+        Check.due("part 1 3", d.part(0, 1, 0, 1, 3), -1);
+        Check.due("part 3 1", d.part(0, 1, 0, 3, 1), -1);
+        Check.due("part -1 1", d.part(0, 1, 0, -1, 1), -1);
         Check.due("part -1 0", d.part(0, 1, 0, -1, 0), -1);
         // Never.
-        d = with("kind f 10 0;row a;", WET);
+        d = Check.with("kind f 10 0;row a;", WET);
         Check.due("part 0 1", d.part(0, 0, 0, 0, 1), -1);
         Check.due("part 0 2", d.part(0, 0, 0, 0, 2), 0);
-        d = with("kind f 10 0;row a;", "air 143 10 11;");
+        d = Check.with("kind f 10 0;row a;", "air 143 10 11;");
         Check.due("part 0 2", d.part(0, 0, 0, 0, 2), 143);
     }
 
@@ -83,7 +79,7 @@ public final class StoriesTest {
         // Behind STEP 0 by STORY 0, 1, 2: a 3 3 0; b 0 0 0 (it has no STOCK left, nothing given);
         // c 2 0 2; and with more STOCK c 5 3 2.
         String ground = "kind f 10 0;kind w 10 0 gives 2;row aab;row bbb;";
-        SixDew d = with(ground + "water 3;", WET);
+        SixDew d = Check.with(ground + "water 3;", WET);
         Check.due("tries a", tries(d, 0, 0, 0, 0), -1);
         Check.due("tries c", tries(d, 0, 0, 2, 0), -1);
         Check.due("tries a c", tries(d, 0, 0, 0, 0, 2, 0), 0b11);
@@ -91,18 +87,23 @@ public final class StoriesTest {
         Check.due("tries b a c", tries(d, 0, 0, 1, 0, 0, 0, 2, 0), 0b110);
         // The least set as bits of those with the fewest.
         Check.due("tries c c a c", tries(d, 0, 0, 2, 0, 0, 1, 0, 0, 1, 1), 0b101);
-        Check.due("tries 8", tries(with(ground + "row aaa;water 3;", WET), 0, 0,
+        Check.due("tries 8", tries(Check.with(ground + "row aaa;water 3;", WET), 0, 0,
                 1, 0, 0, 2, 1, 2, 2, 2, 0, 0, 2, 0, 0, 1, 1, 1), 0b110000);
-        d = with(ground + "water 99;", WET);
+        d = Check.with(ground + "water 99;", WET);
         Check.due("tries c", tries(d, 0, 0, 2, 0), 1);
         // One is fewer than two, be its bit the highest.
         Check.due("tries a b c", tries(d, 0, 0, 0, 0, 1, 0, 2, 0), 0b100);
         Check.due("tries a c c", tries(d, 0, 0, 0, 0, 2, 1, 2, 0), 0b010);
-        Check.due("tries by dry nights", tries(with(ground, ""), 0, 9, 0, 0, 2, 0), -1);
+        // Behind that STEP and no other: dry in STEP 6 and 8.
+        d = Check.with(ground + "water 99;", "air 7 10 11;air 8 10 0;");
+        Check.due("tries behind 6", tries(d, 0, 6, 2, 0), -1);
+        Check.due("tries behind 7", tries(d, 0, 7, 2, 0), 1);
+        Check.due("tries behind 8", tries(d, 0, 8, 2, 0), -1);
+        Check.due("tries by dry nights", tries(Check.with(ground, ""), 0, 9, 0, 0, 2, 0), -1);
     }
 
     private static void p37NotAsTold() {
-        SixDew d = with("kind w 10 0 gives 2;" + Check.times("row aaa;", 3), WET);
+        SixDew d = Check.with("kind w 10 0 gives 2;" + Check.times("row aaa;", 3), WET);
         Check.due("tries", tries(d, 0, 0, 2, 2), 1);
         Check.due("tries of no CELL", tries(d, 0, 0), -1);
         Check.due("tries of half a CELL", tries(d, 0, 0, 0), -1);
@@ -124,7 +125,7 @@ public final class StoriesTest {
 
     private static void p38Hay() {
         // 144 WATER in one CELL behind STEP 71, 72 in two; 1 less behind each STEP by day.
-        SixDew d = with("kind w 10 0 gives 1;kind v 10 0 gives 2;row a;row b;row a;water 0;",
+        SixDew d = Check.with("kind w 10 0 gives 1;kind v 10 0 gives 2;row a;row b;row a;water 0;",
                 "air 0 10 11;air 72 10 10;");
         Check.due("hay 143", d.hay(0, 143), 72);
         Check.due("hay 142", d.hay(0, 142), 73);
@@ -134,12 +135,12 @@ public final class StoriesTest {
         Check.due("hay 9999", d.hay(0, 9999), 72);
         Check.due("hay 10000", d.hay(0, 10000), -1);
         Check.due("hay -1", d.hay(0, -1), -1);
-        d = with("kind w 10 0 gives 1;row a;water 0;", "air 0 10 11;air 72 10 10;");
+        d = Check.with("kind w 10 0 gives 1;row a;water 0;", "air 0 10 11;air 72 10 10;");
         Check.due("hay 0", d.hay(0, 0), 143);
         // Dry by night does not count, dry in between does.
-        d = with("kind f 10 0;row a;", "air 0 10 8;air 72 10 11;air 80 10 0;air 90 10 11;");
+        d = Check.with("kind f 10 0;row a;", "air 0 10 8;air 72 10 11;air 80 10 0;air 90 10 11;");
         Check.due("hay 0", d.hay(0, 0), 80);
-        Check.due("hay of a dry day", with("kind f 10 0;row a;", "").hay(0, 0), 72);
+        Check.due("hay of a dry day", Check.with("kind f 10 0;row a;", "").hay(0, 0), 72);
     }
 
     /** In this ground and wind a CELL has six for each hour behind the last CLOUDED one. */
@@ -165,7 +166,7 @@ public final class StoriesTest {
     }
 
     private static void p39Drawn() {
-        SixDew d = with(QUICK, WINDY);
+        SixDew d = Check.with(QUICK, WINDY);
         int[] seeds = {0, 1, 2, -1, 12345, Integer.MAX_VALUE, Integer.MIN_VALUE, 987654321};
         for (int seed : seeds) {
             for (int nights : new int[] {1, 2, 7, 30}) {
@@ -186,7 +187,7 @@ public final class StoriesTest {
     }
 
     private static void p40DrawnBy() {
-        SixDew d = with(QUICK, WINDY);
+        SixDew d = Check.with(QUICK, WINDY);
         for (int what = -1; what < 4; what++) {
             Check.due("drawnBy ahead of any", d.drawnBy(what), -1);
         }

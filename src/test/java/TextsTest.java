@@ -132,6 +132,11 @@ public final class TextsTest {
         Check.due("PLAN of a new GROUND", d.count(7), 0);
         Check.due("STOCK of a new GROUND", d.count(4), 500);
         Check.due("shades of a new GROUND", d.count(3), 0);
+        Check.groundDue(d, "kind g 10 20;", 1);
+        Check.due("columns of a GROUND without rows", d.count(0), 0);
+        Check.due("rows of a GROUND without rows", d.count(1), 0);
+        Check.groundDue(d, BASE, 3);
+        Check.groundFault(d, "kind g 10 20;shade 0 0 0 1;", 19, 2);
     }
 
     private static void p04KindFaults() {
@@ -161,6 +166,9 @@ public final class TextsTest {
         Check.groundFault(d, "kind g 1 0 gives 9", 18, 1);
         Check.groundFault(d, "kind g 1 0;kind h 1 0;kind g 1 0;", 27, 3);
         Check.groundDue(d, "kind g 1 0;kind gg 1 0;kind h 1 0;", 3);
+        Check.groundDue(d, "kind gab 1 0;kind gac 1 0;kind gbb 1 0;kind zzz 1 0;", 4);
+        Check.groundFault(d, "kind gab 1 0;kind gac 1 0;kind zbz 1 0;kind gac\n1 0;", 44, 3);
+        Check.groundFault(d, "kind gab 1 0;kind gab\n1 0;", 18, 3);
         // Behind a row, be it a ninth, too: the least kind of FAULT of its WORD.
         Check.groundFault(d, "kind g 1 0;row a;kind g 1 0;", 17, 3);
         String eight = "kind m 1 0;kind n 1 0;kind o 1 0;kind p 1 0;kind q 1 0;kind r 1 0;"
@@ -258,6 +266,7 @@ public final class TextsTest {
         Check.groundFault(d, padded(BASE + "row aa", 900) + ";", 900, 1);
         Check.groundDue(d, padded(BASE + "row aa", 899) + ";", 4);
         Check.groundFault(d, padded(BASE, 900) + "row aa;", 900, 1);
+        Check.groundFault(d, padded(BASE, 900) + "kind h 1 0;", 900, 1);
         SixDew n = new SixDew();
         Check.nightDue(n, 0, padded("wind 0 1;", 400), 1);
         Check.nightFault(n, 0, padded("wind 0 1;", 401), 400, 1);
@@ -283,6 +292,9 @@ public final class TextsTest {
         Check.planDue(d, "on 1;", 1);
         Check.planFault(d, "wipe 0 0;", 5, 2);
         Check.groundDue(d, "", 0);
+        Check.planFault(d, "x", 0, 1);
+        Check.due("night of no SLOT", d.night(6), -1001);
+        Check.due("fault behind it", d.fault(), 0);
         Check.planFault(d, "x", 0, 1);
         Check.due("a LAWN is no text with FAULTS", d.lawn(), 0);
         Check.due("fault behind it", d.fault(), 1);
