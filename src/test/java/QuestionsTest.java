@@ -201,7 +201,8 @@ public final class QuestionsTest {
         Check.due("walk", d.walk(0, 0, 0, 2), 0);
         Check.due("walk", d.walk(0, 0, 0, 4), 0);
         Check.due("walk", d.walk(0, 0, 0, 8), 5);
-        int[][] none = {{-1, 0, 0}, {144, 0, 0}, {0, -1, 0}, {0, 0, -1}, {0, 15, 0}, {0, 0, 15}};
+        int[][] none = {{-1, 0, 0}, {144, 0, 0}, {0, -1, 0}, {0, 0, -1}, {0, 15, 0}, {0, 0, 15},
+            {0, 16, 0}, {0, 0, 16}, {0, 144, 0}, {0, 0, 144}};
         for (int[] a : none) {
             Check.due("walk of none", d.walk(0, a[0], a[1], a[2]), -1);
         }

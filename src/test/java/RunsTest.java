@@ -310,6 +310,7 @@ public final class RunsTest {
         }
         Check.due("went(-1)", d.went(-1), -1);
         Check.due("went(5)", d.went(5), -1);
+        Check.due("went(6)", d.went(6), -1);
         // A go that was -2 tells nothing, nor does a new GROUND.
         Check.due("go(2)", d.go(2), -2);
         Check.due("went(2)", d.went(2), 60);

@@ -201,6 +201,7 @@ public final class StoriesTest {
                 Check.due("drawnBy(" + what + ") of " + seed, d.drawnBy(what), due[what + 1]);
             }
             Check.due("drawnBy(3)", d.drawnBy(3), -1);
+            Check.due("drawnBy(4)", d.drawnBy(4), -1);
             Check.due("drawnBy(-1)", d.drawnBy(-1), -1);
         }
         // One that is NONE tells nothing, nor does a new GROUND.

@@ -419,7 +419,7 @@ public final class TextsTest {
             }
         }
         int[][] none = {{1, 0, 0}, {-1, 0, 0}, {6, 0, 0}, {0, -1, 0}, {0, 144, 0}, {0, 0, -1},
-            {0, 0, 5}};
+            {0, 0, 5}, {0, 0, 6}, {0, 0, Integer.MAX_VALUE}, {0, 145, 0}, {7, 0, 0}};
         for (int[] a : none) {
             Check.due("sky of none", d.sky(a[0], a[1], a[2]), -1);
         }
