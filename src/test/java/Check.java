@@ -22,6 +22,13 @@ final class Check {
         due(call, got ? 1 : 0, want ? 1 : 0);
     }
 
+    static void same(String call, String got, String want) {
+        if (!got.equals(want)) {
+            wrong++;
+            System.out.println(call + ": there is " + got + ", due is " + want);
+        }
+    }
+
     static void finish(String test) {
         if (wrong > 0) {
             System.out.println(test + ": " + wrong + " answers are not as due");
@@ -134,6 +141,36 @@ final class Check {
         } catch (NoSuchElementException e) {
             return THROWS;
         }
+    }
+
+    /** All that can be seen of an object without changing it, but for its tape's bytes. */
+    static String seen(SixDew d) {
+        StringBuilder s = new StringBuilder();
+        for (int what = 0; what < 8; what++) {
+            s.append(d.count(what)).append(what == 7 ? "; now" : ",");
+        }
+        for (int what = 0; what < 5; what++) {
+            s.append(' ').append(d.now(what)).append('/').append(d.went(what));
+        }
+        s.append("; told ").append(d.fault()).append(' ').append(d.cameAt(0)).append(' ');
+        s.append(d.cameAt(1)).append(' ').append(d.drawnBy(0)).append(' ').append(d.drawnBy(1));
+        s.append(' ').append(d.drawnBy(2)).append("; cells");
+        for (int y = 0; y < d.count(1); y++) {
+            for (int x = 0; x < d.count(0); x++) {
+                s.append(' ').append(cell(d, x, y, 0)).append('/').append(cell(d, x, y, 1));
+                s.append('/').append(cell(d, x, y, 2)).append('/').append(cell(d, x, y, 3));
+                s.append('/').append(cell(d, x, y, 4)).append('/').append(is(d, x, y, 0));
+                s.append('/').append(is(d, x, y, 1));
+            }
+        }
+        for (int slot = 0; slot < 6; slot += 3) {
+            for (int t = 0; t < 144; t += 71) {
+                for (int what = 0; what < 5; what++) {
+                    s.append(what == 0 ? "; sky " : ",").append(d.sky(slot, t, what));
+                }
+            }
+        }
+        return s.toString();
     }
 
     static String times(String text, int n) {
