@@ -145,32 +145,46 @@ final class Check {
 
     /** All that can be seen of an object without changing it, but for its tape's bytes. */
     static String seen(SixDew d) {
-        StringBuilder s = new StringBuilder();
+        return kept(d) + "; told " + toldLast(d) + "; fault " + d.fault() + "; tape " + d.count(6);
+    }
+
+    /** GROUND, NIGHTS, PLAN and RUN. */
+    static String kept(SixDew d) {
+        StringBuilder s = new StringBuilder("counts");
         for (int what = 0; what < 8; what++) {
-            s.append(d.count(what)).append(what == 7 ? "; now" : ",");
+            s.append(' ').append(what == 6 ? 0 : d.count(what));
         }
+        s.append("; now");
         for (int what = 0; what < 5; what++) {
-            s.append(' ').append(d.now(what)).append('/').append(d.went(what));
+            s.append(' ').append(d.now(what));
         }
-        s.append("; told ").append(d.fault()).append(' ').append(d.cameAt(0)).append(' ');
-        s.append(d.cameAt(1)).append(' ').append(d.drawnBy(0)).append(' ').append(d.drawnBy(1));
-        s.append(' ').append(d.drawnBy(2)).append("; cells");
-        for (int y = 0; y < d.count(1); y++) {
-            for (int x = 0; x < d.count(0); x++) {
-                s.append(' ').append(cell(d, x, y, 0)).append('/').append(cell(d, x, y, 1));
-                s.append('/').append(cell(d, x, y, 2)).append('/').append(cell(d, x, y, 3));
-                s.append('/').append(cell(d, x, y, 4)).append('/').append(is(d, x, y, 0));
-                s.append('/').append(is(d, x, y, 1));
+        s.append("; cells");
+        for (int c = 0; c < d.count(0) * d.count(1); c++) {
+            int x = c % d.count(0);
+            int y = c / d.count(0);
+            for (int what = 0; what < 5; what++) {
+                s.append(what == 0 ? ' ' : '/').append(cell(d, x, y, what));
             }
+            s.append('/').append(is(d, x, y, 0)).append('/').append(is(d, x, y, 1));
         }
         for (int slot = 0; slot < 6; slot += 3) {
             for (int t = 0; t < 144; t += 71) {
                 for (int what = 0; what < 5; what++) {
-                    s.append(what == 0 ? "; sky " : ",").append(d.sky(slot, t, what));
+                    s.append(what == 0 ? "; sky " : "/").append(d.sky(slot, t, what));
                 }
             }
         }
         return s.toString();
+    }
+
+    /** What went(), cameAt() and drawnBy() tell. */
+    static String toldLast(SixDew d) {
+        StringBuilder s = new StringBuilder();
+        for (int what = 0; what < 5; what++) {
+            s.append(d.went(what)).append(' ');
+        }
+        s.append(d.cameAt(0)).append(' ').append(d.cameAt(1)).append(' ').append(d.drawnBy(0));
+        return s.append(' ').append(d.drawnBy(1)).append(' ').append(d.drawnBy(2)).toString();
     }
 
     static String times(String text, int n) {

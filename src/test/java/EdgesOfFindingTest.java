@@ -25,6 +25,7 @@ public final class EdgesOfFindingTest {
         cloudedTwelve();
         cloudedNotAsTold();
         cameEachStep();
+        cameLikeAShade();
         cameSoMuch();
         cameAtOfTheLatest();
         roofByEach();
@@ -37,6 +38,7 @@ public final class EdgesOfFindingTest {
         partEdges();
         triesOfEach();
         triesOfTwo();
+        triesOfThree();
         triesNotAsTold();
         hayEdges();
         drawnNights();
@@ -206,6 +208,28 @@ public final class EdgesOfFindingTest {
         SixDew d = Check.with("kind g 1 99;row a;water 999;", "cloud 1 100;");
         cameDue(d, 0, 0, 1, 0, 0);
         cameDue(d, 0, d.much(0, 0, 0, 71), 72, 1, 72);
+        // No SKY at all is left: any makes water here, and by a car from 0 on there is none.
+        d = Check.with("kind g 10 10;row a;", "air 0 10 10;");
+        cameDue(d, 0, 0, 1, 0, 0);
+        // Where there is none anyway a car makes no less.
+        d = Check.with("kind g 1 99;row a;shade 0 0 0 100;", "air 5 10 11;");
+        cameDue(d, 0, d.much(0, 0, 0, 71), 73, 0, 72);
+    }
+
+    /** "SKY of that CELL being 0", of that one alone: a shade of 100 there makes a RUN like it */
+    private static void cameLikeAShade() {
+        String ground = "kind g 7 20;kind h 12 15;kind i 3 9;row abc;row cab;water 130;";
+        String night = "cloud 0 20;air 0 11 8;cloud 30 60;air 40 9 7;wind 50 1;";
+        for (int c = 0; c < 6; c++) {
+            int x = c % 3;
+            int y = c / 3;
+            SixDew shaded = Check.with(ground + "shade " + x + " " + y + " 0 100;", night);
+            SixDew d = Check.with(ground, night);
+            Check.due("came", d.came(0, x, y, shaded.much(0, x, y, 71)) >= 1, true);
+            Check.due("cameAt(0)", d.cameAt(0), 0);
+            Check.due("came", d.came(0, x, y, d.much(0, x, y, 71)) >= 1, true);
+            Check.due("cameAt(1)", d.cameAt(1), 72);
+        }
     }
 
     /** "there is just so much"; "how many such STEPS" */
@@ -271,6 +295,9 @@ public final class EdgesOfFindingTest {
                     + " 10 0;" : ""));
             Check.due("roof, wet behind " + t, d.roof(0, 0, 0), t <= 71 ? -1 : 0);
         }
+        // "(0 at least)": a SKY of 0 is not less by N, and keeps nothing dry.
+        Check.due("roof without SKY", Check.with("kind g 1 99;row a;shade 0 0 0 100;", "air 5 10 11;")
+                .roof(0, 0, 0), -1);
         // The roof is of that CELL alone: its neighbour has the STOCK all the same.
         SixDew d = Check.with("kind g 10 10;row aa;water 3;", "air 0 10 10;");
         Check.due("roof of the first", d.roof(0, 0, 0), 100);
@@ -434,6 +461,24 @@ public final class EdgesOfFindingTest {
         }
     }
 
+    /** "the fewest": one that does ahead of two that do; "all three STORIES are unlike" */
+    private static void triesOfThree() {
+        // g has 3, 3, 0; what is given 3 has 6, 3, 3; both part all; so does w alone: 5, 3, 2.
+        String kinds = "kind f 10 0;kind g 10 10;kind v 10 10 gives 3;kind w 10 10 gives 2;";
+        String[] rows = {"b", "c", "bb", "cc", "bc", "cb", "abc", "bcd", "cbd", "bbccd", "dbc", "bdc",
+            "aacbb", "bccbdd"};
+        int[] due = {-1, -1, -1, -1, 3, 3, 6, 4, 4, 16, 1, 2, 12, 16};
+        for (int i = 0; i < rows.length; i++) {
+            SixDew d = Check.with(kinds + "row " + rows[i] + ";", "air 0 10 10;");
+            Check.due("tries " + rows[i], tries(d, 0, 0, rowOf(rows[i].length(), false)), due[i]);
+        }
+        // What was given dried and comes on elsewhere: 24 by STORY 0, 18 by 1, none by 2.
+        SixDew d = Check.with("kind f 10 0;kind w 10 0 gives 2;row ab;water 18;",
+                "air 4 10 11;air 9 10 10;wind 9 4;wind 12 0;air 12 10 11;");
+        Check.due("tries behind 14", tries(d, 0, 14, 0, 0), -1);
+        Check.due("tries behind 15", tries(d, 0, 15, 0, 0), 1);
+    }
+
     /** "the tape's bytes being CELLS (X, Y each, unlike) .. NONE, too: no set does, not as told" */
     private static void triesNotAsTold() {
         SixDew d = Check.with("kind w 10 0 gives 2;row aaaaa;row aaaaa;", WET);
@@ -553,6 +598,14 @@ public final class EdgesOfFindingTest {
         // Beside the NIGHT's own clouds, that stay.
         Check.night(d, 3, "cloud 0 100;wind 0 9;");
         Check.due("drawn of a cloudy NIGHT", d.drawn(3, 0, 0, 30, 1), 0);
+        // One WATER is some; and C is 100, no more, in a CLOUDED hour: D stays 100.
+        d = Check.with("kind n 10 0 gives 1;row a;water 0;", "air 71 10 11;");
+        Check.due("drawn, one a night", d.drawn(0, 0, 0, 30, 1), 30);
+        Check.due("drawnBy(2)", d.drawnBy(2), 30);
+        d = Check.with("kind g 1 99;row a;water 999;", "cloud 0 100;air 0 10 11;");
+        Check.due("drawn in wet air", d.drawn(0, 0, 0, 30, 1), 30 * 3 * 72);
+        Check.due("drawnBy(0)", d.drawnBy(0), 216);
+        Check.due("drawnBy(1)", d.drawnBy(1), 216);
         // What a CLOUDED hour can't keep off is caught each night.
         d = Check.with(GIFTS + "row d;", WET);
         Check.due("drawn in wet air", d.drawn(0, 0, 0, 30, 1), 30 * 5 * 72);

@@ -102,9 +102,19 @@ public final class EdgesOfQuestionsTest {
             Check.due("bench", d.bench(0, 100), -1);
             Check.due("driest", d.driest(0, 1), -1);
             Check.due("hay", d.hay(0, 0), 72);
+            Check.due("hay -1", d.hay(0, -1), -1);
+            Check.due("hay 10000", d.hay(0, 10000), -1);
+            Check.due("where 0", d.where(0, 143, 0), -1);
+            Check.due("sick 0", d.sick(0, 0), -1);
+            Check.due("lawn of a byte", lawnOfAByte(d), -1);
             Check.due("lawn", d.lawn(), 1);
             Check.due("clouded", d.clouded(0), 4095);
         }
+    }
+
+    private static int lawnOfAByte(SixDew d) {
+        Check.tape(d, 2);
+        return d.lawn();
     }
 
     /** "WATER of a CELL behind STEP t": STEPS 0 to 143 */
@@ -216,7 +226,10 @@ public final class EdgesOfQuestionsTest {
     /** "SPELL of a CELL: the most STEPS one behind the other behind which there is WATER" */
     private static void spell() {
         Check.due("spell, never", Check.with(FLAT, "").spell(0, 0, 0), 0);
-        Check.due("spell, always", Check.with(FLAT, WET).spell(0, 0, 0), 144);
+        SixDew d = Check.with(FLAT, WET);
+        for (int i = 0; i < 3; i++) {
+            Check.due("spell, always", d.spell(0, 0, 0), 144);
+        }
     }
 
     /** "the most": ahead of a dry STEP or behind it, up to the last STEP */
@@ -243,6 +256,9 @@ public final class EdgesOfQuestionsTest {
         }
         Check.due("sick 144", d.sick(0, 144), 0);
         Check.due("sick 144", Check.with(GIFTS + "row abcd;", WET).sick(0, 144), 3);
+        // Be it the first CELL alone, or the last one.
+        Check.due("sick 144", Check.with(GIFTS + "row baaa;", WET).sick(0, 144), 1);
+        Check.due("sick 144", Check.with(GIFTS + "row aaab;", WET).sick(0, 144), 1);
         d = Check.with(GIFTS + "row abcd;", "air 1 10 11;");
         Check.due("sick 144", d.sick(0, 144), 0);
         Check.due("sick 143", d.sick(0, 143), 3);
@@ -285,6 +301,18 @@ public final class EdgesOfQuestionsTest {
                 Check.due("slugs with " + x + " " + y, d.slugs(0, 0, 1, 1), away == 1 ? 2 : 1);
                 Check.due("slugs of " + x + " " + y, d.slugs(0, 0, x, y), away == 1 ? 2 : 1);
             }
+        }
+        // One column, and one row.
+        SixDew line = Check.with(GIFTS + "row b;row b;row a;row b;row b;row b;", WET);
+        int[] column = {2, 2, 0, 3, 3, 3};
+        for (int y = 0; y < 6; y++) {
+            Check.due("slugs in one column", line.slugs(0, 0, 0, y), column[y]);
+            Check.due("walk in one column", line.walk(0, 0, 0, y), y < 2 ? y + 1 : Math.max(2, y));
+        }
+        line = Check.with(GIFTS + "row bbabbb;", WET);
+        for (int x = 0; x < 6; x++) {
+            Check.due("slugs in one row", line.slugs(0, 0, x, 0), column[x]);
+            Check.due("walk in one row", line.walk(0, 0, 0, x), x < 2 ? x + 1 : Math.max(2, x));
         }
         // The end of a row is no neighbour of the next row's first CELL.
         SixDew d = Check.with(GIFTS + "row aab;row baa;", WET);
@@ -377,6 +405,14 @@ public final class EdgesOfQuestionsTest {
             Check.due("unlike from " + t, d.unlike(5, 0), t);
             Check.due("unlike itself", d.unlike(5, 5), -1);
         }
+        // "some CELL's": each of them alone.
+        for (int c = 0; c < 6; c++) {
+            String row = "a".repeat(c) + "b" + "a".repeat(5 - c);
+            SixDew d = Check.with(GIFTS + "row " + row.substring(0, 3) + ";row " + row.substring(3)
+                    + ";", WET);
+            Check.night(d, 5, "");
+            Check.due("unlike by one of " + row, d.unlike(0, 5), 0);
+        }
         SixDew d = Check.with(GIFTS + "row aaaa;", WET);
         Check.night(d, 5, "");
         Check.due("unlike, all dry", d.unlike(0, 5), -1);
@@ -410,6 +446,18 @@ public final class EdgesOfQuestionsTest {
             }
         }
         Check.due("bench, none", Check.with(FLAT, WET).bench(0, 100), -1);
+        // In a dry NIGHT the first of all is one, but not by an N that is not as told.
+        SixDew dry = Check.with(FLAT, "");
+        int[] due = {-1, 0, 0, -1};
+        int[] less = {-1, 0, 100, 101};
+        for (int i = 0; i < 4; i++) {
+            Check.due("bench by " + less[i], dry.bench(0, less[i]), due[i]);
+        }
+        // "(0 at least)": a SKY of 0 is not less by N, and keeps nothing dry.
+        dry = Check.with("kind g 1 99;row a;shade 0 0 0 100;", "air 5 10 11;");
+        for (int n = 0; n <= 100; n++) {
+            Check.due("bench without SKY", dry.bench(0, n), -1);
+        }
     }
 
     /** "has no WATER behind STEPS 0 to 71" */

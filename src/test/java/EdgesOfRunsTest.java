@@ -32,6 +32,7 @@ public final class EdgesOfRunsTest {
         planOn();
         planWipe();
         planCover();
+        planEachCell();
         firstWrongLine();
         emptyPlan();
         goNotAsTold();
@@ -280,6 +281,14 @@ public final class EdgesOfRunsTest {
                 Check.due("now(0) behind it", d.now(0), 144);
             }
         }
+        // What was given, wiped and covered in the RUN ahead is so no more.
+        d = behind("kind w 10 10 gives 3;row aa;water 20;", WET, 9);
+        Check.planDue(d, "cover 0 0;wipe 1 0;", 2);
+        Check.due("go(1)", d.go(1), -1);
+        Check.due("begin", d.begin(0), true);
+        nowDue("begun anew", d, 0, 20, 0, 0, 0);
+        Check.due("go(0) covers anew", d.go(0), 1);
+        wentDue("it was dry, not covered", d, 2, 0, 0, 0, 1);
     }
 
     /** "It goes on by so many STEPS (0 to 144; 143 is the last one): how many were done" */
@@ -422,6 +431,29 @@ public final class EdgesOfRunsTest {
         Check.due("covered and bare", d.go(1), -1);
     }
 
+    /** "'wipe' X Y | 'cover' X Y | 'bare' X Y": each CELL by its column and its row */
+    private static void planEachCell() {
+        for (int y = 0; y < 3; y++) {
+            for (int x = 0; x < 2; x++) {
+                SixDew d = behind("kind g 10 10;row aa;row aa;row aa;water 999;", "air 0 10 10;", 1);
+                String cell = " " + x + " " + y + ";";
+                Check.planDue(d, "wipe" + cell + "cover" + cell + "on 1;", 3);
+                Check.due("go(1)", d.go(1), -1);
+                for (int c = 0; c < 6; c++) {
+                    boolean it = c == 2 * y + x;
+                    // By STEP 1: 900 and 5, less 100 but for the covered one: D 95 or 195.
+                    Check.due("WARMTH", Check.is(d, c % 2, c / 2, 0), it ? 905 : 805);
+                    Check.due("WATER", Check.is(d, c % 2, c / 2, 1), it ? 2 : 7);
+                }
+                Check.planDue(d, "bare" + cell + "on 1;", 2);
+                Check.due("go(1)", d.go(1), -1);
+                for (int c = 0; c < 6; c++) {
+                    Check.due("WARMTH", Check.is(d, c % 2, c / 2, 0), c == 2 * y + x ? 809 : 714);
+                }
+            }
+        }
+    }
+
     /** "The first LINE that is WRONG ends it" */
     private static void firstWrongLine() {
         for (int at = 0; at < 30; at++) {
@@ -450,6 +482,13 @@ public final class EdgesOfRunsTest {
             Check.due("go(" + does + ")", d.go(does), -1);
             wentDue("no LINE", d, 0, 0, 0, 3, 0);
         }
+        // Behind a PLAN that was WRONG nothing is.
+        Check.planDue(d, "bare 0 0;", 1);
+        Check.due("go(0)", d.go(0), 0);
+        wentDue("WRONG", d, 3, 0, 0, 3, 0);
+        Check.due("plan()", d.plan(), 0);
+        Check.due("go(0)", d.go(0), -1);
+        wentDue("no LINE behind a WRONG one", d, 0, 0, 0, 3, 0);
         d = new SixDew();
         Check.due("night()", d.night(0), 0);
         Check.due("begin", d.begin(0), true);

@@ -188,6 +188,10 @@ public final class EdgesOfTextsTest {
         Check.groundFault(d, "kind g 1 0;row a1;", 15, TOKEN);
         Check.groundFault(d, "kind g 1 0;row aA;", 16, TOKEN);
         Check.groundFault(d, "kind g 1 0;rowa;", 11, TOKEN);
+        // A sign of none is no WORD of no letter: 1, not 2.
+        Check.groundFault(d, "kind g 1 0;row .;", 15, TOKEN);
+        Check.groundFault(d, "kind g 1 0;row a;row .;", 21, TOKEN);
+        Check.groundFault(d, "kind g 1 0;row a;row A;", 21, TOKEN);
         Check.nightFault(d, 0, "sun1;", 0, TOKEN);
         Check.nightFault(d, 0, "sun 1x;", 4, TOKEN);
         Check.planFault(d, "on1;", 0, TOKEN);
@@ -324,6 +328,7 @@ public final class EdgesOfTextsTest {
         SixDew d = new SixDew();
         Check.groundDue(d, "kind a 1 0;kind aa 1 0;kind ab 1 0;kind ba 1 0;kind b 1 0;", 5);
         Check.groundFault(d, "kind abcdefghijkl 1 0;kind abcdefghijkl 1 0;", 27, TWICE);
+        Check.groundFault(d, "kind g 1 0;kind\ng\n1 0;", 16, TWICE);
         Check.groundDue(d, "kind abcdefghijkl 1 0;kind abcdefghijkm 1 0;", 2);
         // Names told in an earlier text may come again, and those of a text with a FAULT.
         Check.groundDue(d, "kind abcdefghijkl 1 0;", 1);
@@ -679,6 +684,17 @@ public final class EdgesOfTextsTest {
         for (int n : new int[] {Integer.MIN_VALUE, Integer.MAX_VALUE, 941}) {
             Check.due("end(" + n + ")", d.end(n), false);
         }
+        // What the tape has no more is not read.
+        d = new SixDew();
+        Check.tape(d, Check.bytes("water 1234"));
+        Check.due("end(9)", d.end(9), true);
+        Check.due("ground() of three digits", d.ground(), -10);
+        Check.tape(d, Check.bytes("kind abcdefghijklm"));
+        Check.due("end(17)", d.end(17), true);
+        Check.due("ground() of twelve letters", d.ground(), -18);
+        Check.tape(d, Check.bytes("water 7;."));
+        Check.due("end(8)", d.end(8), true);
+        Check.due("ground()", d.ground(), 1);
         // What comes next comes behind the first n.
         d = new SixDew();
         Check.tape(d, Check.bytes("water 12345"));

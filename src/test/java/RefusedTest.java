@@ -168,22 +168,22 @@ public final class RefusedTest {
     private static void textQuestions() {
         for (String call : new String[] {"lawn", "clouded", "tries"}) {
             SixDew d = full();
-            String tail = Check.seen(d);
+            String ahead = Check.seen(d);
             Check.due(call + " refused", Faces.call(d, call, 0, 9), -1);
             Check.due("the tape behind " + call, d.count(6), 0);
             Check.tape(d, Check.bytes(TAPE));
-            stays(call, d, tail);
+            stays(call, d, ahead);
         }
         for (int slot : new int[] {-1, 1, 6, MOST, LEAST}) {
             for (String call : new String[] {"clouded", "tries"}) {
                 SixDew d = full();
-                String tail = Check.seen(d);
+                String ahead = Check.seen(d);
                 Check.due("end(0)", d.end(0), true);
                 Check.tape(d, call.equals("tries") ? new byte[2] : new byte[3]);
                 Check.due(call + " of no NIGHT", Faces.call(d, call, slot, 9), -1);
                 Check.due("the tape behind " + call, d.count(6), 0);
                 Check.tape(d, Check.bytes(TAPE));
-                stays(call, d, tail);
+                stays(call, d, ahead);
             }
         }
         // A FAULT, or no such SLOT, is told by fault() and changes nothing else.
@@ -191,9 +191,13 @@ public final class RefusedTest {
             SixDew d = full();
             Check.due("end(0)", d.end(0), true);
             Check.tape(d, Check.bytes("."));
-            String tail = Check.seen(d).replace("told 2", "told 1").replace(",1,3; now", ",0,3; now");
+            String kept = Check.kept(d);
+            String told = Check.toldLast(d);
             Check.due(call + " refused", Faces.call(d, call, 0), -1);
-            Check.same("all else is as it was behind " + call, Check.seen(d), tail);
+            Check.due("fault() behind " + call, d.fault(), 1);
+            Check.due("the tape behind " + call, d.count(6), 0);
+            Check.same("all is kept behind " + call, Check.kept(d), kept);
+            Check.same("all told last is so behind " + call, Check.toldLast(d), told);
         }
         SixDew d = full();
         Check.due("night(6)", d.night(6), -1001);
