@@ -379,8 +379,8 @@ public final class EdgesOfFindingTest {
             }
         }
         Check.due("catcher of one KIND", Check.with(FLAT, WET).catcher(0, 0, 0), 0);
-        Check.due("catcher of none wet", Check.with("kind f 1 0;kind g 2 0;row b;", "").catcher(0,
-                0, 0), 0);
+        SixDew dry = Check.with("kind f 1 0;kind g 2 0;row b;", "");
+        Check.due("catcher of none wet", dry.catcher(0, 0, 0), 0);
     }
 
     /** "by a STORY (0 to 2)"; "of STORIES a, b .. NONE, too: .. no such ones" */
@@ -409,8 +409,8 @@ public final class EdgesOfFindingTest {
             Check.due("part 0 1 at " + t, d.part(0, 0, 0, 0, 1), t);
             Check.due("part 1 2 at " + t, d.part(0, 0, 0, 1, 2), t);
         }
-        Check.due("part, never wet", Check.with("kind w 10 0 gives 2;row a;", "").part(0, 0, 0, 0,
-                1), -1);
+        SixDew dry = Check.with("kind w 10 0 gives 2;row a;", "");
+        Check.due("part, never wet", dry.part(0, 0, 0, 0, 1), -1);
         Check.due("part, nothing given", Check.with(FLAT, WET).part(0, 0, 0, 0, 1), -1);
         Check.due("part, no STOCK", Check.with("kind w 10 0 gives 2;row a;water 0;", WET)
                 .part(0, 0, 0, 0, 2), -1);

@@ -96,8 +96,8 @@ public final class EdgesOfRunsTest {
         }
         // By less than 1 it is nothing, both ways: 1 WARMTH by 11, 12 and so on.
         isDue("by the sun", behind("kind f 10 0;row a;" + skyOf(2), "sun 0;", 2), 1002, 0);
-        isDue("by the sky", behind("kind f 10 10;row a;" + skyOf(1), "air 0 10 0;cloud 1 100;", 9),
-                999, 0);
+        String hidden = "air 0 10 0;cloud 1 100;";
+        isDue("by the sky", behind("kind f 10 10;row a;" + skyOf(1), hidden, 9), 999, 0);
     }
 
     /** "and SUN times 8 SKY by H" */
