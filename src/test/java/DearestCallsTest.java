@@ -64,12 +64,12 @@ public final class DearestCallsTest {
         for (int i = 0; i < dearest.length; i++) {
             SixDew d = big();
             long ahead = made();
-            for (int call = 0; call < 100; call++) {
+            for (int call = 0; call < 512; call++) {
                 Faces.call(d, dearest[i], args[i]);
             }
             long bytes = made() - ahead;
             if (bytes > 250000) {
-                Check.due("bytes made by 100 calls of " + dearest[i], bytes, 0);
+                Check.due("bytes made by 512 calls of " + dearest[i], bytes, 0);
             }
         }
     }

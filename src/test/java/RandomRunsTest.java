@@ -76,7 +76,17 @@ public final class RandomRunsTest {
         same("end", bytes.length);
     }
 
-    private String spoiled(String text) {
+    /** Made longer by blanks, so that it ends about the most bytes told, a TOKEN across the edge. */
+    private String stretched(String text, int most) {
+        String[] ends = {"", "x", ";", "water 5;", "sun 143;", "on 1;", "1234", "abc", "\n", " 7"};
+        int blanks = most - text.length() + any(18) - 14;
+        return text + " ".repeat(Math.max(0, blanks)) + ends[any(ends.length)];
+    }
+
+    private String spoiled(String text, int most) {
+        if (any(12) == 0) {
+            return stretched(text, most);
+        }
         if (any(7) != 0 || text.isEmpty()) {
             return text;
         }
@@ -113,7 +123,7 @@ public final class RandomRunsTest {
         }
         same("count", 6);
         same("end", 0);
-        text(spoiled(s.toString()));
+        text(spoiled(s.toString(), 900));
         same("ground");
         same("fault");
         columns = (int) model.call("count", 0);
@@ -136,7 +146,7 @@ public final class RandomRunsTest {
             s.append("; ");
         }
         same("end", 0);
-        text(spoiled(s.toString()));
+        text(spoiled(s.toString(), 400));
         same("night", slot);
         same("fault");
     }
@@ -155,7 +165,7 @@ public final class RandomRunsTest {
             s.append(';');
         }
         same("end", 0);
-        text(spoiled(s.toString()));
+        text(spoiled(s.toString(), 300));
         same("plan");
         same("fault");
     }
